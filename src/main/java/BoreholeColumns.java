@@ -912,7 +912,9 @@ public final class BoreholeColumns {
                 case MISSING_IN_B:
                     return missingCostOf(a.markOf(i));
                 case REPEAT:
-                    return costOfRepeat(repeatedBed(i, j), j);
+                    int repeated = repeatedBed(i, j);
+                    return repeated == NONE
+                            ? IMPOSSIBLE : repeatCost + costOfDifference(repeated, j);
                 default:
                     return missingCostOf(b.markOf(j));
             }
@@ -921,10 +923,6 @@ public final class BoreholeColumns {
         /** IMPOSSIBLE for the mark NONE, which a bed has that is not there. */
         private int missingCostOf(int mark) {
             return isMark(mark) ? missingCosts[mark] : IMPOSSIBLE;
-        }
-
-        private int costOfRepeat(int repeated, int j) {
-            return repeated == NONE ? IMPOSSIBLE : repeatCost + costOfDifference(repeated, j);
         }
 
         private int costOfDifference(int i, int j) {
@@ -977,18 +975,14 @@ public final class BoreholeColumns {
             for (int i = 0; i <= a.size(); i++) {
                 for (int j = 0; j <= b.size(); j++) {
                     for (int step = MATCH; step <= MISSING_IN_A; step++) {
-                        lowerAfter(step, i, j);
+                        int cost = leastAt(i, j) + stepCost(step, i, j);
+                        if (cost < leastAfter(step, i, j)) {
+                            putLeast(nextOfA(step, i), nextOfB(step, j), cost);
+                        }
                     }
                 }
             }
             return leastAt(a.size(), b.size());
-        }
-
-        private void lowerAfter(int step, int i, int j) {
-            int cost = leastAt(i, j) + stepCost(step, i, j);
-            if (cost < leastAfter(step, i, j)) {
-                putLeast(nextOfA(step, i), nextOfB(step, j), cost);
-            }
         }
 
         /** Asks for the table of costFromBottom(); answers NO_STEP when all beds were read. */

@@ -660,6 +660,14 @@ public final class PromisesTest {
         costIs(far, 0, 1, 6 + 2);
         far.setNumber(3, 3);
         costIs(far, 0, 1, 10);
+        BoreholeColumns behind = with("0:a5b5c5d5;", "1:d5a5;");
+        costIs(behind, 0, 1, 40);
+        behind.setNumber(3, 4);
+        costIs(behind, 0, 1, 36);
+        BoreholeColumns unread = with("0:a1b1c1;", "1:b1a1b1c1;");
+        unread.setNumber(0, 99);
+        unread.setNumber(1, 1);
+        costIs(unread, 0, 1, 99);
         BoreholeColumns late = with("0:a1a9;", "1:a1a9a1;");
         late.setNumber(1, 1);
         late.setNumber(3, 2);
@@ -792,6 +800,8 @@ public final class PromisesTest {
         for (int what = 1; what <= 5; what++) {
             due("matched(0, 1, " + what + ")", x.matched(0, 1, what), want[what - 1]);
             due("matched(2, 3, " + what + ")", x.matched(2, 3, what), 0);
+            due("matched(0, 3, " + what + ")", x.matched(0, 3, what), what == 2 ? 3 : 0);
+            due("matched(3, 0, " + what + ")", x.matched(3, 0, what), what == 4 ? 3 : 0);
         }
         x.addBed(1, 0, 25, 1);
         due("one more is missing in A", x.matched(0, 1, 4), 2);
@@ -835,6 +845,12 @@ public final class PromisesTest {
         faultIs(y, 2, 4, -2, 4);
         BoreholeColumns repeat = with("0:a10c5;", "1:a10a10c5;");
         faultIs(repeat, 0, 0, -10, 2);
+        BoreholeColumns lower = with("0:a10b20c5;", "1:z1a10b29c5;");
+        faultIs(lower, 0, 1, -9, 0);
+        due("fault(0, 1, 1, 0)", lower.fault(0, 1, 1, 0), NONE);
+        due("fault(1, 0, 0, 0)", lower.fault(1, 0, 0, 0), 2);
+        due("fault(1, 0, 0, 1)", lower.fault(1, 0, 0, 1), 9);
+        due("sumOfThrows(0, 1, 2)", lower.sumOfThrows(0, 1, 2), -9);
         answers.refused(y, "fault(0, 1, -1, 0)", () -> y.fault(0, 1, -1, 0), INVALID);
         answers.refused(y, "fault(0, 1, 0, 3)", () -> y.fault(0, 1, 0, 3), INVALID);
         answers.refused(y, "fault(0, 1, 99, 3)", () -> y.fault(0, 1, 99, 3), INVALID);
