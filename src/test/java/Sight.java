@@ -12,17 +12,17 @@ final class Sight {
             sight.append(x.account(what)).append(' ');
         }
         for (int hole = 0; hole < 4; hole++) {
-            sight.append('\n').append(x.hole(hole, 0)).append(' ').append(x.hole(hole, 1)).append(' ').append(x.hole(hole, 2));
-            for (int bed = 0; bed < x.hole(hole, 1); bed++) {
-                sight.append(' ').append((char) ('a' + x.bed(hole, bed, 0))).append(x.bed(hole, bed, 1));
-            }
+            sight.append('\n').append(x.hole(hole, 0)).append(' ').append(x.hole(hole, 1));
+            sight.append(' ').append(x.hole(hole, 2)).append(' ').append(column(x, hole));
         }
         return sight.toString();
     }
 
+    /** The beds of a hole, as a text would tell them. */
     static String column(BoreholeColumns x, int hole) {
         StringBuilder sight = new StringBuilder();
-        for (int bed = 0; bed < x.hole(hole, 1); bed++) {
+        int beds = x.hole(hole, 1);
+        for (int bed = 0; bed < beds; bed++) {
             sight.append((char) ('a' + x.bed(hole, bed, 0))).append(x.bed(hole, bed, 1));
         }
         return sight.toString();
