@@ -34,6 +34,7 @@ public final class TermsTest {
         accounts();
         texts();
         undoAndImages();
+        lookingChangesNothing();
         errors();
         answers.end();
     }
@@ -1161,6 +1162,19 @@ public final class TermsTest {
         due("load()", x.load(), 1);
         due("undo() of load()", x.undo(), 1);
         due("the text that was read stays gone", x.count(7), 0);
+    }
+
+    private static final Twins.Call[] LOOKING = {x -> x.count(5), x -> x.hole(0, 2), x -> x.bed(0, 5, 3),
+        x -> x.find(0, 0, 2), x -> x.account(0), x -> x.cost(0, 1, 0), x -> x.cost(0, 1, 1), x -> x.why(0, 1, 1, 1),
+        x -> x.partner(0, 1, 0, 5), x -> x.matched(0, 1, 5), x -> x.fault(0, 1, 0, 1), x -> x.sumOfThrows(0, 1, 2),
+        x -> x.nearest(3, 1), x -> x.closed(0, 1, 2), x -> x.bed(0, 6, 0), x -> x.find(3, 0, 0), x -> x.fault(0, 1, 9, 0),
+        x -> x.sumOfThrows(0, 3, 0)};
+
+    private static void lookingChangesNothing() {
+        for (int k = 0; k < LOOKING.length; k++) {
+            answers.part("looking and matching: nothing changes by the call " + k);
+            answers.holds("alike", Twins.alike(Holes::busy, LOOKING[k]));
+        }
     }
 
     /** More of the codes is told promise by promise, in BoundsTest. */
