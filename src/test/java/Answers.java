@@ -36,12 +36,15 @@ final class Answers {
         due(what, fact ? 1 : 0, 1);
     }
 
-    /** A call that answers an error changes nothing that can be looked at. */
+    /**
+     * A call that answers an error changes nothing. Few looks, so that an object stands many of these
+     * within its 512 calls; BoundsTest and TermsTest look at everything, by Twins.
+     */
     void refused(BoreholeColumns x, String what, IntSupplier call, int want) {
-        String before = Sight.of(x);
+        String before = Sight.inShort(x);
         due(what, call.getAsInt(), want);
         asked++;
-        if (!before.equals(Sight.of(x))) {
+        if (!before.equals(Sight.inShort(x))) {
             wrong++;
             System.out.println(test + ", " + part + ": " + what + " changed something");
         }

@@ -803,7 +803,27 @@ public final class BoundsTest {
         due("partner(0, 1, 0, 0)", x.partner(0, 1, 0, 0), 0);
         due("partner(1, 2, 0, 0)", x.partner(1, 2, 0, 0), NONE);
         due("partner(0, 2, 0, 0)", x.partner(0, 2, 0, 0), 0);
+        promise27TheFirstOneNamedIsTheColumnA();
         answers.part("promise 27: a repeat is no match");
         due("of one bed and two", Holes.with("0:a5;", "1:a5a5;", "2:a5a5;").closed(0, 1, 2), 1);
+    }
+
+    /** Columns of which another column A, in one of the three matchings alone, would change the number. */
+    private static void promise27TheFirstOneNamedIsTheColumnA() {
+        answers.part("promise 27: of a and b, a is the column A");
+        BoreholeColumns x = Holes.with("0:a5;", "1:a9a5;", "2:a5a5;");
+        due("partner(0, 1, 0, 0), of two for 10 the upper one", x.partner(0, 1, 0, 0), 0);
+        due("partner(1, 0, 1, 0), where no bed of B repeats", x.partner(1, 0, 1, 0), 1);
+        due("closed(0, 1, 2)", x.closed(0, 1, 2), 1);
+        answers.part("promise 27: of b and c, b is the column A");
+        BoreholeColumns y = Holes.with("0:a5;", "1:a5a5;", "2:b5a5;");
+        due("partner(1, 2, 0, 0), where no bed of B repeats", y.partner(1, 2, 0, 0), NONE);
+        due("partner(2, 1, 1, 0), of a repeat below it", y.partner(2, 1, 1, 0), 1);
+        due("closed(0, 1, 2)", y.closed(0, 1, 2), 0);
+        answers.part("promise 27: of a and c, a is the column A");
+        BoreholeColumns z = Holes.with("0:a5;", "1:a5a5;", "2:a9a5;");
+        due("partner(0, 2, 0, 0), of two for 10 the upper one", z.partner(0, 2, 0, 0), 0);
+        due("partner(2, 0, 1, 0), where no bed of B repeats", z.partner(2, 0, 1, 0), 1);
+        due("closed(0, 1, 2)", z.closed(0, 1, 2), 1);
     }
 }

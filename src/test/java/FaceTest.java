@@ -117,20 +117,24 @@ public final class FaceTest {
                 || !threads.isThreadAllocatedMemorySupported()) {
             return;
         }
-        BoreholeColumns x = new BoreholeColumns();
-        callAll(x);
         long thread = Thread.currentThread().getId();
+        BoreholeColumns[] objects = new BoreholeColumns[20];
         threads.getThreadAllocatedBytes(thread);
         long before = threads.getThreadAllocatedBytes(thread);
-        for (int round = 0; round < 100; round++) {
-            callAll(x);
+        for (int k = 0; k < objects.length; k++) {
+            objects[k] = new BoreholeColumns();
         }
-        long bytes = threads.getThreadAllocatedBytes(thread) - before;
-        answers.holds("3000 calls made " + bytes + " bytes", bytes < 20000);
-        before = threads.getThreadAllocatedBytes(thread);
-        new BoreholeColumns();
-        bytes = threads.getThreadAllocatedBytes(thread) - before;
+        long bytes = (threads.getThreadAllocatedBytes(thread) - before) / objects.length;
         answers.holds("an object has " + bytes + " bytes", bytes < 40000);
+        callAll(new BoreholeColumns());
+        before = threads.getThreadAllocatedBytes(thread);
+        for (BoreholeColumns x : objects) {
+            for (int round = 0; round < 14; round++) {
+                callAll(x);
+            }
+        }
+        bytes = threads.getThreadAllocatedBytes(thread) - before;
+        answers.holds("some 9800 calls made " + bytes + " bytes", bytes < 20000);
     }
 
     private static void callAll(BoreholeColumns x) {
@@ -152,6 +156,11 @@ public final class FaceTest {
         x.keep(0);
         x.back(0);
         x.undo();
+        x.count(5);
+        x.hole(0, 2);
+        x.bed(0, 0, 3);
+        x.find(0, 0, 0);
+        x.account(0);
         x.cost(0, 1, 1);
         x.why(0, 1, 1, 0);
         x.partner(0, 1, 1, 0);

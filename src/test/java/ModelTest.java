@@ -1,7 +1,15 @@
 import java.util.List;
 
-/** Long runs of calls, each answer compared with that of the model. */
+/**
+ * Long runs of calls, each answer compared with that of the model. No run has more than 512 calls,
+ * since what later ones answer is free; so each ends with one long look, drawn from several.
+ */
 public final class ModelTest {
+    private static final int MOST_CALLS = 512;
+    private static final int MOST_CALLS_OF_A_STEP = 13;
+    private static final int MOST_CALLS_OF_A_TEXT = 110;
+    private static final int MOST_CALLS_OF_A_LONG_LOOK = 180;
+
     private static final Answers answers = new Answers("ModelTest");
 
     private BoreholeColumns x = new BoreholeColumns();
@@ -16,7 +24,7 @@ public final class ModelTest {
     }
 
     public static void main(String[] args) {
-        for (int run = 1; run <= 400 && answers.wrongOnes() == 0; run++) {
+        for (int run = 1; run <= 2000 && answers.wrongOnes() == 0; run++) {
             answers.part("run " + run);
             new ModelTest(run).run(run % 4);
         }
@@ -24,7 +32,7 @@ public final class ModelTest {
             answers.part("short columns " + run);
             new ModelTest(run + 100000).shortColumns();
         }
-        for (int run = 1; run <= 200 && answers.wrongOnes() == 0; run++) {
+        for (int run = 1; run <= 400 && answers.wrongOnes() == 0; run++) {
             answers.part("texts " + run);
             new ModelTest(run + 200000).texts();
         }
@@ -55,7 +63,7 @@ public final class ModelTest {
     private void run(int kind) {
         marks = kind == 0 ? 26 : kind + 1;
         int filling = kind == 3 ? 120 : 25;
-        while (calls < 512 && answers.wrongOnes() == 0) {
+        while (calls + MOST_CALLS_OF_A_STEP + MOST_CALLS_OF_A_LONG_LOOK <= MOST_CALLS) {
             if (!pending.isEmpty()) {
                 append();
             } else if (calls < filling) {
@@ -64,7 +72,8 @@ public final class ModelTest {
                 step();
             }
         }
-        lookAtAll();
+        lookLong();
+        keptToTheCalls();
     }
 
     private void shortColumns() {
@@ -86,10 +95,11 @@ public final class ModelTest {
         answers.holds("the model's own two ways agree", every.equals(model.steps(0, 1)));
         lookAtPair(0, 1);
         lookAtPair(1, 0);
+        keptToTheCalls();
     }
 
     private void texts() {
-        while (calls < 480) {
+        while (calls + MOST_CALLS_OF_A_TEXT + MOST_CALLS_OF_A_LONG_LOOK <= MOST_CALLS) {
             pending = someText();
             while (!pending.isEmpty()) {
                 append();
@@ -99,7 +109,13 @@ public final class ModelTest {
                 due("clearText", x.clearText(), model.clearText());
             }
         }
-        lookAtAll();
+        lookAtBeds(below(4));
+        lookAtNumbers();
+        keptToTheCalls();
+    }
+
+    private void keptToTheCalls() {
+        answers.holds(calls + " calls are at most 512", calls <= MOST_CALLS);
     }
 
     private void due(String call, int got, int want) {
@@ -240,22 +256,47 @@ public final class ModelTest {
         due("closed(" + a + ", " + b + ", " + c + ")", x.closed(a, b, c), model.closed(a, b, c));
     }
 
-    private void lookAtAll() {
+    private void lookLong() {
+        int a = below(4);
+        int b = (a + 1 + below(3)) % 4;
+        switch (below(6)) {
+            case 0 -> {
+                lookAtNumbers();
+                lookAtBeds(a);
+            }
+            case 1 -> {
+                lookAtNumbers();
+                lookAtTriples();
+            }
+            case 2 -> {
+                undoAll();
+                lookAtPair(a, b);
+            }
+            default -> lookAtPair(a, b);
+        }
+    }
+
+    private void lookAtNumbers() {
         for (int what = -1; what <= 10; what++) {
             due("count(" + what + ")", x.count(what), model.count(what));
             due("account(" + what + ")", x.account(what), model.account(what));
         }
+    }
+
+    private void lookAtBeds(int hole) {
+        for (int bed = 0; bed <= 24; bed++) {
+            for (int what = 0; what <= 3; what++) {
+                due("bed(" + hole + ", " + bed + ", " + what + ")", x.bed(hole, bed, what), model.bed(hole, bed, what));
+            }
+        }
+        for (int mark = 0; mark < 26; mark++) {
+            due("find(" + hole + ", " + mark + ", 1)", x.find(hole, mark, 1), model.find(hole, mark, 1));
+        }
+    }
+
+    private void lookAtTriples() {
         for (int a = 0; a <= 3; a++) {
-            for (int bed = 0; bed <= 24; bed++) {
-                for (int what = 0; what <= 3; what++) {
-                    due("bed(" + a + ", " + bed + ", " + what + ")", x.bed(a, bed, what), model.bed(a, bed, what));
-                }
-            }
-            for (int mark = 0; mark < 26; mark++) {
-                due("find(" + a + ", " + mark + ", 1)", x.find(a, mark, 1), model.find(a, mark, 1));
-            }
             for (int b = 0; b <= 3; b++) {
-                lookAtPair(a, b);
                 for (int c = 0; c <= 3; c++) {
                     due("closed(" + a + ", " + b + ", " + c + ")", x.closed(a, b, c), model.closed(a, b, c));
                 }
@@ -263,13 +304,14 @@ public final class ModelTest {
             due("nearest(" + a + ", 0)", x.nearest(a, 0), model.nearest(a, 0));
             due("nearest(" + a + ", 1)", x.nearest(a, 1), model.nearest(a, 1));
         }
-        answers.due("account 0", x.account(0), x.account(1) - x.account(2) - x.account(3) + x.account(4));
+    }
+
+    private void undoAll() {
         for (int left = model.saved.size(); left >= 0; left--) {
             due("undo()", x.undo(), model.undo());
             due("account(0)", x.account(0), model.account(0));
             due("count(5)", x.count(5), model.count(5));
         }
-        lookAtPair(0, 1);
     }
 
     private void lookAtPair(int a, int b) {

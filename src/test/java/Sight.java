@@ -18,6 +18,11 @@ final class Sight {
         return sight.toString();
     }
 
+    /** All beds, the text, the saved states and all lengths, each by a number: four calls. */
+    static String inShort(BoreholeColumns x) {
+        return x.count(6) + " " + x.count(7) + " " + x.count(8) + " " + x.account(0);
+    }
+
     /** The beds of a hole, as a text would tell them. */
     static String column(BoreholeColumns x, int hole) {
         StringBuilder sight = new StringBuilder();
